@@ -1373,8 +1373,8 @@ public final class NoRent {
         final int[] start = new int[CLAUSES];
         final int[] stop = new int[CLAUSES];
         int written;
-        final int[] op = new int[2 * TAPE];
-        final int[] arg = new int[2 * TAPE];
+        final int[] op = new int[TAPE];
+        final int[] arg = new int[TAPE];
 
         private int tokens;
         private final int[] token = new int[TAPE + 1];
@@ -1480,11 +1480,14 @@ public final class NoRent {
         }
 
         private void expect(int what) {
-            if (fault != NONE || token[at] != what) {
-                fail();
+            if (fault != NONE) {
                 return;
             }
-            at++;
+            if (token[at] == what) {
+                at++;
+            } else {
+                fault = place[at];
+            }
         }
 
         private int readNumber(int low, int high) {
@@ -1510,41 +1513,39 @@ public final class NoRent {
                 return;
             }
             int c = clauses;
+            int head = token[at];
+            boolean mayAsk = false;
             clauses++;
-            kind[c] = token[at];
+            kind[c] = head;
             first[c] = 0;
             second[c] = 0;
             start[c] = written;
-            if (kind[c] == WORD_STRIKE) {
+            if (head == WORD_STRIKE) {
                 at++;
                 first[c] = readNumber(0, TEXTS - 1);
                 expect(WORD_CLAUSE);
                 second[c] = readNumber(0, CLAUSES - 1);
-            } else if (kind[c] == WORD_STEP) {
+            } else if (head == WORD_STEP) {
                 at++;
                 first[c] = readNumber(0, LAST_STEP);
                 second[c] = readNumber(1, 52);
-            } else {
-                readHead(kind[c]);
-            }
-            stop[c] = written;
-        }
-
-        private void readHead(int head) {
-            if (head == WORD_FAIR || head == WORD_DRAW) {
+            } else if (head == WORD_FAIR || head == WORD_DRAW) {
                 at++;
                 readSum(0);
+                mayAsk = true;
             } else if (head == WORD_KEEP || head == WORD_BAN || head == WORD_GRAB) {
                 at++;
                 write(NUMBER, 0);
+                mayAsk = true;
             } else {
                 fail();
             }
-            if (fault == NONE && token[at] == WORD_IF) {
+            if (mayAsk && fault == NONE && token[at] == WORD_IF) {
                 at++;
                 readTest(0);
                 write(WORD_IF, 0);
             }
+            stop[c] = written;
         }
 
         private void readTest(int brackets) {
