@@ -133,7 +133,7 @@ public final class RandomRunsTest {
     private void guard() {
         int f = pick(3);
         int a = number(0, Math.min(399, m.count(0) + 10));
-        int b = chance(90) ? a + upTo(6) : number(0, 399);
+        int b = chance(85) ? a + upTo(6) : number(0, 399);
         due("guard(" + f + ", " + a + ", " + b + ")", x.guard(f, a, b), m.guard(f, a, b));
     }
 
@@ -480,8 +480,8 @@ public final class RandomRunsTest {
                 due("judge(" + a + ", " + b + ")", x.judge(a, b), m.judge(a, b));
                 break;
             case 7:
-                if (chance(40)) {
-                    a = number(1, 60);
+                if (chance(50)) {
+                    a = chance(70) ? number(20, 60) : number(1, 104);
                     due("choose(" + a + ")", x.choose(a), m.choose(a));
                     for (int i = 0; i < 7; i++) {
                         due("chosen(" + i + ")", x.chosen(i), m.chosen(i));

@@ -159,7 +159,7 @@ public final class SeasonsAndTextsTest {
         Check.part("promise 19");
         Object[][] faults = {
             {"", 0}, {"   ", 3}, {";", 0}, {"keep;", 5}, {"keep ; ", 7}, {"keep;;", 5}, {"keep keep", 5}, {"Keep", 0},
-            {"kee", 0}, {"keeps", 0}, {"keep1", 4}, {"fair", 4}, {"fair  ", 6}, {"fair ;", 5}, {"fair -1", 5},
+            {"kee", 0}, {"keeps", 0}, {"keepz", 0}, {"zkeep", 0}, {"keep`", 4}, {"keep{", 4}, {"keep/", 4}, {"fair 1:", 6}, {"keep1", 4}, {"fair", 4}, {"fair  ", 6}, {"fair ;", 5}, {"fair -1", 5},
             {"fair 1 2", 7}, {"fair 1+", 7}, {"fair 1+*2", 7}, {"fair (1)", 5}, {"fair [1", 7}, {"fair [1)", 7},
             {"fair []", 6}, {"fair 1]", 6}, {"fair holds", 5}, {"fair 1<2", 6}, {"fair 100001", 5},
             {"fair 99999999999999999999", 5}, {"fair 1 if", 9}, {"fair if 1<2", 5}, {"draw", 4}, {"keep 1", 5},

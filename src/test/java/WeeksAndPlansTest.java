@@ -16,10 +16,13 @@ public final class WeeksAndPlansTest {
         wishClearCrops();
         chooseAndJudge();
         chooseOrder();
+        chooseByGuards();
+        roomOnPaper();
         paperAlone();
         beside();
         sealAlterFound();
         imageAndBack();
+        imagesApart();
         planOutlivesBack();
         count();
         status();
@@ -255,6 +258,14 @@ public final class WeeksAndPlansTest {
         Check.due("30 of 40 leave 1000", x.least(0, 8), 31);
         Check.text(x, 0, "fair 100");
         Check.due("nothing is spared", x.least(0, 8), NONE);
+        NoRent y = new NoRent();
+        y.estate(10, 200);
+        y.person(0, 0, 0);
+        y.field(0, 50, 100, 0);
+        y.field(0, 50, 101, 0);
+        Check.text(y, 0, "fair 89 if rent = 100");
+        Check.due("11 of 11 spare", y.least(0, 1), NONE);
+        Check.due("but twice", y.least(0, 2), 1);
     }
 
     private static void offersAndAgree() {
@@ -408,6 +419,69 @@ public final class WeeksAndPlansTest {
         Check.due("row", y.chosen(0), 0);
         Check.due("row", y.chosen(1), 0);
         Check.due("row", y.chosen(2), 1);
+    }
+
+    /** n FIELDS of RENT 100, GUARDED for ever by bits, and their one HOLDER with so many pence. */
+    private static NoRent guarded(int n, int bits, int pence) {
+        NoRent x = new NoRent();
+        x.estate(0, 0);
+        x.person(0, pence, 0);
+        Check.text(x, 0, "fair 0");
+        for (int f = 0; f < n; f++) {
+            x.field(0, 100, 100, 0);
+            if ((bits >> f & 1) == 1) {
+                x.guard(f, 0, 399);
+            }
+        }
+        x.crops(0, 0);
+        return x;
+    }
+
+    private static void chooseByGuards() {
+        Check.part("promise 38, who KEEPS is GUARDED");
+        // KEEPING for what is GUARDED saves the pence for what is not
+        for (int bits = 0; bits < 64; bits++) {
+            NoRent x = guarded(6, bits, 100 * (6 - Integer.bitCount(bits)));
+            for (int f = 0; f < 6; f++) {
+                x.wish(f);
+            }
+            // what is GUARDED behind the last that is not need not KEEP: nothing is left for it anyhow
+            int needed = 0;
+            for (int f = 0; f < 6; f++) {
+                needed |= (bits >> f & 1) == 1 && bits >> f != (1 << 6 - f) - 1 ? 1 << f : 0;
+            }
+            Check.due("none is put OUT, " + bits, x.choose(30), 0);
+            for (int f = 0; f < 6; f++) {
+                Check.due("choice " + f + " of " + bits, x.chosen(f), needed >> f & 1);
+            }
+            Check.due("no seventh", x.chosen(6), NONE);
+            Check.due("judged alike", x.judge(needed, 30), 0);
+        }
+        // WISHES told the other way round
+        NoRent y = guarded(3, 2, 200);
+        y.wish(2);
+        y.wish(1);
+        y.wish(0);
+        Check.due("by KEEPING for FIELD 1 alone", y.choose(30), 0);
+        Check.due("FIELD 2", y.chosen(0), 0);
+        Check.due("FIELD 1", y.chosen(1), 1);
+        Check.due("FIELD 0", y.chosen(2), 0);
+        Check.due("FIELD 1", y.judge(2, 30), 0);
+        Check.due("nobody", y.judge(0, 30), 1);
+    }
+
+    private static void roomOnPaper() {
+        Check.part("terms IV, room for WRITS on paper");
+        NoRent x = new NoRent();
+        x.estate(0, 0);
+        x.person(0, 1000, 0);
+        x.person(1, 150, 0);
+        for (int i = 0; i < 39; i++) {
+            x.field(0, 1, 1, 0);
+        }
+        x.field(0, 1, 100, 1);
+        x.crops(0, 0);
+        Check.due("who pays takes no room", x.judge(0, 43), 1);
     }
 
     private static void paperAlone() {
@@ -640,6 +714,54 @@ public final class WeeksAndPlansTest {
         Check.due("deal", x.deal(1, 0, 1), 2);
         x.back(0);
         Check.due("deals", x.count(6), 1);
+    }
+
+    /** What is made anew behind BACK is not what the other IMAGE has under the same number. */
+    private static void imagesApart() {
+        Check.part("promises 45, 46, two IMAGES");
+        NoRent x = new NoRent();
+        x.image(0);
+        x.estate(100, 10);
+        x.person(1, 5, 60);
+        x.field(0, 100, 3, 0);
+        x.offer(5, 5);
+        x.price(0, 7);
+        Check.row(x, 0, 0, 4);
+        x.image(1);
+        x.back(0);
+        Check.due("nothing", x.count(1) + x.count(2) + x.count(3) + x.count(7), 0);
+        x.estate(100, 99);
+        x.person(2, 6, 10);
+        x.field(0, 50, 1, NONE);
+        x.offer(1, 1);
+        Check.row(x, 0, 0, 8);
+        x.seal();
+        x.back(1);
+        Check.due("crop of WEEK 0", x.crop(0, 0), 4);
+        Check.due("offer", x.agree(5, 5), 1);
+        Check.due("not SEALED", x.found(), -3);
+        Check.due("price", x.go(1) + x.of(0, 2), 1 + 4);
+        x.go(13);
+        Check.due("rent and mortgage", x.owner(0, 0), 100 + 3 - 10);
+        // GRABBED stays so, in an IMAGE and on paper
+        NoRent y = PeopleAndLandTest.poor(2);
+        Check.text(y, 0, "grab;step 0 1;step 1 1;step 2 1;step 3 1;keep if grabs;fair 1");
+        y.go(14);
+        y.writ(0);
+        y.go(5);
+        y.coin(1, 1000);
+        Check.due("GRAB", y.take(1, 0, 0), 0);
+        y.image(0);
+        Check.due("grabs", y.holds(0, 5, 1, NONE), 1);
+        Check.tape(y, "ban");
+        Check.due("1 and 1 of each QUARTER", y.beside(10), 0);
+        Check.tape(y, "strike 0 clause 5");
+        Check.due("RENTS and ARREARS of two FIELDS", y.beside(10), 400 - 2);
+        y.writ(0);
+        y.go(20);
+        Check.due("put OUT", y.holds(0, 5, 1, NONE), 0);
+        y.back(0);
+        Check.due("grabs", y.holds(0, 5, 1, NONE), 1);
     }
 
     private static void planOutlivesBack() {
