@@ -93,10 +93,10 @@ public final class NoRent {
     private static final int NUMBER = 301;
     private static final int END = 302;
 
-    private final County county = new County();
-    private final County paper = new County();
-    private final County firstImage = new County();
-    private final County secondImage = new County();
+    private final County county = new County(false);
+    private final County paper = new County(true);
+    private final County firstImage = new County(false);
+    private final County secondImage = new County(false);
     private boolean firstKept;
     private boolean secondKept;
     private final Tape tape = new Tape();
@@ -591,7 +591,7 @@ public final class NoRent {
         if (!canChoose(weeks)) {
             return NONE;
         }
-        int leastWorst = FIELDS * LONGEST_GO;
+        int leastWorst = FIELDS + 1;
         int bestBits = 0;
         // In this order the first row with the least WORST is the BEST, and none is better than 0.
         for (int keeping = 0; keeping <= wishes && leastWorst > 0; keeping++) {
@@ -600,7 +600,7 @@ public final class NoRent {
                     continue;
                 }
                 int bits = bitsOfRow(row);
-                int worst = worstOf(bits, weeks);
+                int worst = worstOf(bits, weeks, leastWorst);
                 if (worst < leastWorst) {
                     leastWorst = worst;
                     bestBits = bits;
@@ -622,7 +622,7 @@ public final class NoRent {
         if (!canChoose(weeks) || !within(bits, 0, (1 << wishes) - 1)) {
             return NONE;
         }
-        return worstOf(bits, weeks);
+        return worstOf(bits, weeks, FIELDS + 1);
     }
 
     public long beside(int weeks) {
@@ -766,15 +766,16 @@ public final class NoRent {
         return bits;
     }
 
-    private int worstOf(int bits, int weeks) {
+    /** WORST, but no further than to a number that is bad enough. On paper a FIELD is lost but once. */
+    private int worstOf(int bits, int weeks, int enough) {
         int worst = 0;
-        for (int c = 0; c < cropsTold; c++) {
+        for (int c = 0; c < cropsTold && worst < enough; c++) {
             paper.copyFrom(county);
             paper.tellCrops(cropPrice[c], cropSacks[c]);
             for (int i = 0; i < wishes; i++) {
                 paper.choice[wished[i]] = bits >> i & 1;
             }
-            for (int week = 0; week < weeks; week++) {
+            for (int week = 0; week < weeks && paper.outs < enough; week++) {
                 paper.passWeek();
             }
             worst = Math.max(worst, paper.outs);
@@ -1242,6 +1243,16 @@ public final class NoRent {
             }
         }
 
+        boolean asksBanned() {
+            for (int t = 0; t < count; t++) {
+                Text text = texts[t];
+                if (text != null && text.asksBanned) {
+                    return true;
+                }
+            }
+            return false;
+        }
+
         int weeksOf(int step) {
             int weeks = USUAL_STEP;
             for (int t = 0; t < count; t++) {
@@ -1267,6 +1278,7 @@ public final class NoRent {
     private static final class Text {
         final int from;
         final int clauses;
+        final boolean asksBanned;
         /** Each clause's head, and the two numbers of a "strike" or a "step". */
         final int[] kind;
         final int[] first;
@@ -1280,6 +1292,7 @@ public final class NoRent {
         Text(int from, Reader reader) {
             this.from = from;
             this.clauses = reader.clauses;
+            this.asksBanned = reader.asksBanned;
             this.kind = Arrays.copyOf(reader.kind, CLAUSES);
             this.first = Arrays.copyOf(reader.first, CLAUSES);
             this.second = Arrays.copyOf(reader.second, CLAUSES);
@@ -1367,6 +1380,7 @@ public final class NoRent {
         int fault = NONE;
 
         int clauses;
+        boolean asksBanned;
         final int[] kind = new int[CLAUSES];
         final int[] first = new int[CLAUSES];
         final int[] second = new int[CLAUSES];
@@ -1388,6 +1402,7 @@ public final class NoRent {
             split(tape);
             fault = NONE;
             clauses = 0;
+            asksBanned = false;
             written = 0;
             at = 0;
             leaves = 0;
@@ -1651,6 +1666,7 @@ public final class NoRent {
                 arg[written] = value[at];
                 written++;
             }
+            asksBanned = asksBanned || token[at] == WORD_BANNED;
             leaves++;
             at++;
         }
@@ -1665,6 +1681,7 @@ public final class NoRent {
         final Law law = new Law();
         final League league = new League();
         int now;
+        private final boolean onPaper;
 
         /** CHOICES: what each FIELD's HOLDER does whatever the TEXTS tell; NONE, if they tell. */
         final int[] choice = new int[FIELDS];
@@ -1679,7 +1696,8 @@ public final class NoRent {
         private final long[] stack = new long[STACK];
         private final int[] spared = new int[FIELDS];
 
-        County() {
+        County(boolean onPaper) {
+            this.onPaper = onPaper;
             Arrays.fill(choice, NONE);
         }
 
@@ -1734,24 +1752,22 @@ public final class NoRent {
                 }
             }
             payDraws();
-            renewBans();
+            // On paper nobody deals: only "banned" could ask who is.
+            if (!onPaper || law.asksBanned()) {
+                renewBans();
+            }
             now++;
         }
 
         private void reap() {
-            for (int f = 0; f < land.count; f++) {
+            boolean any = choosing ? now % QUARTER == 0 : seasons.rows[now] != null;
+            for (int f = 0; any && f < land.count; f++) {
                 int holder = land.holder[f];
-                if (holder != NONE) {
-                    people.sacks[holder] += Math.max(cropOf(f), 0);
+                int crop = choosing ? toldSacks * land.worth[f] / 100 : seasons.sacksOf(f, now);
+                if (holder != NONE && crop != NONE) {
+                    people.sacks[holder] += crop;
                 }
             }
-        }
-
-        private int cropOf(int field) {
-            if (choosing) {
-                return now % QUARTER == 0 ? toldSacks * land.worth[field] / 100 : 0;
-            }
-            return seasons.sacksOf(field, now);
         }
 
         private void collectRents() {
