@@ -281,30 +281,11 @@ public final class NoRent {
     }
 
     public int row(int week, int from) {
-        Land land = county.land;
-        if (!isWeek(week)) {
-            return refuse(BAD_NUMBER);
-        }
-        if (!land.has(from)) {
-            return refuse(NO_SUCH);
-        }
-        if (week < county.now) {
-            return refuse(CANT_BE);
-        }
-        if (county.seasons.rows[week] != null) {
-            return refuse(TWICE);
-        }
-        int floats = tape.floats();
-        if (floats == 0 || floats > land.count - from) {
-            return refuse(UNREADABLE);
-        }
-        Row row = new Row(from, tape.readNumbers());
-        for (int i = 0; i < row.sacks.length && from + i < land.count; i++) {
-            row.sacks[i] = (int) (tape.numberOf(i) * land.worth[from + i] / 100);
-        }
-        county.seasons.rows[week] = row;
+        int why = whyNoRow(week, from);
+        int numbers = why == 0 ? keepRow(week, from) : 0;
+        // Behind every row(), a refused one too.
         tape.length = 0;
-        return accept(row.sacks.length);
+        return why == 0 ? accept(numbers) : refuse(why);
     }
 
     public int crop(int field, int week) {
@@ -626,15 +607,11 @@ public final class NoRent {
     }
 
     public long beside(int weeks) {
-        if (!canGo(weeks) || county.law.count >= TEXTS) {
-            return NOTHING;
-        }
-        Text text = reader.read(tape, county.now);
+        boolean reads = canGo(weeks) && county.law.count < TEXTS;
+        Text text = reads ? reader.read(tape, county.now) : null;
+        // Behind every beside(), one that read nothing too.
         tape.length = 0;
-        if (text == null) {
-            return NOTHING;
-        }
-        return gotOnPaper(weeks, text) - gotOnPaper(weeks, null);
+        return text == null ? NOTHING : gotOnPaper(weeks, text) - gotOnPaper(weeks, null);
     }
 
     public int seal() {
@@ -733,6 +710,34 @@ public final class NoRent {
 
     private boolean canGo(int weeks) {
         return within(weeks, 1, LONGEST_GO) && county.now + weeks <= LAST_WEEK;
+    }
+
+    /** What a ROW of the TAPE is refused by; 0 if it is not. */
+    private int whyNoRow(int week, int from) {
+        if (!isWeek(week)) {
+            return BAD_NUMBER;
+        }
+        if (!county.land.has(from)) {
+            return NO_SUCH;
+        }
+        if (week < county.now) {
+            return CANT_BE;
+        }
+        if (county.seasons.rows[week] != null) {
+            return TWICE;
+        }
+        int floats = tape.floats();
+        return floats == 0 || floats > county.land.count - from ? UNREADABLE : 0;
+    }
+
+    private int keepRow(int week, int from) {
+        Land land = county.land;
+        Row row = new Row(from, tape.readNumbers());
+        for (int i = 0; i < row.sacks.length && from + i < land.count; i++) {
+            row.sacks[i] = (int) (tape.numberOf(i) * land.worth[from + i] / 100);
+        }
+        county.seasons.rows[week] = row;
+        return row.sacks.length;
     }
 
     private boolean isWished(int field) {

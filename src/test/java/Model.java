@@ -829,6 +829,12 @@ final class Model {
     }
 
     int row(int week, int from) {
+        byte[] bytes = tape;
+        tape = new byte[0];
+        return rowOf(bytes, week, from);
+    }
+
+    private int rowOf(byte[] bytes, int week, int from) {
         if (!in(week, 0, 399)) {
             return no(-1);
         }
@@ -841,12 +847,12 @@ final class Model {
         if (s.rows.containsKey(week)) {
             return no(-4);
         }
-        int floats = tape.length / 4 + (tape.length % 4 == 0 ? 0 : 1);
+        int floats = bytes.length / 4 + (bytes.length % 4 == 0 ? 0 : 1);
         if (floats == 0 || from + floats > s.fields.size()) {
             return no(-6);
         }
-        float[] raw = new float[tape.length / 4];
-        java.nio.ByteBuffer.wrap(tape).asFloatBuffer().get(raw);
+        float[] raw = new float[bytes.length / 4];
+        java.nio.ByteBuffer.wrap(bytes).asFloatBuffer().get(raw);
         Map<Integer, Integer> row = new HashMap<>();
         for (int i = 0; i < raw.length; i++) {
             Double left = null;
@@ -861,7 +867,6 @@ final class Model {
             row.put(from + i, (int) (n * s.fields.get(from + i).worth / 100));
         }
         s.rows.put(week, row);
-        tape = new byte[0];
         return yes(row.size());
     }
 
@@ -1250,6 +1255,7 @@ final class Model {
 
     long beside(int weeks) {
         if (!in(weeks, 1, 104) || s.now + weeks > 399 || s.texts.size() == 20) {
+            tape = new byte[0];
             return NOTHING;
         }
         Law law = read(s.now);

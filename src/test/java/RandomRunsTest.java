@@ -166,6 +166,7 @@ public final class RandomRunsTest {
         end(Math.min(text.length(), m.count(9)));
         int w = chance(60) ? m.count(0) : chance(50) ? number(0, 399) : Math.min(399, m.count(0) + upTo(20));
         due("text(" + w + ") of \"" + text + "\"", x.text(w), m.text(w));
+        due("count(9)", x.count(9), m.count(9));
         due("fault()", x.fault(), m.fault());
     }
 
@@ -185,6 +186,7 @@ public final class RandomRunsTest {
         end(Math.min(m.count(9), Math.max(0, n * 4 - (chance(80) ? 0 : upTo(3)))));
         int w = chance(90) ? Math.min(399, m.count(0) + upTo(20)) : number(0, 399);
         due("row(" + w + ", " + f + ")", x.row(w, f), m.row(w, f));
+        due("count(9)", x.count(9), m.count(9));
         if (chance(30)) {
             int g = pick(3);
             due("crop(" + g + ", " + w + ")", x.crop(g, w), m.crop(g, w));
@@ -495,6 +497,7 @@ public final class RandomRunsTest {
                 end(Math.min(text.length(), m.count(9)));
                 a = number(1, 104);
                 due("beside(" + a + ") of \"" + text + "\"", x.beside(a), m.beside(a));
+                due("count(9)", x.count(9), m.count(9));
                 due("fault()", x.fault(), m.fault());
                 break;
         }

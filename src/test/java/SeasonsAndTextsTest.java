@@ -41,7 +41,7 @@ public final class SeasonsAndTextsTest {
             Check.due("crop(" + f + ", 1)", x.crop(f, 1), sacks[f]);
         }
         Check.due("twice", Check.row(x, 1, 0, 5), -4);
-        Check.due("refused, so the TAPE stays", x.count(9), 4);
+        Check.due("refused, and the TAPE is empty", x.count(9), 0);
         Check.due("one alone", Check.row(x, 2, 1, Float.POSITIVE_INFINITY, 7, Float.NEGATIVE_INFINITY), 3);
         Check.due("ahead of it", x.crop(1, 2), 7);
         Check.due("behind it", x.crop(3, 2), 7);
@@ -92,6 +92,24 @@ public final class SeasonsAndTextsTest {
         Check.due("status", x.status(), -6);
         Check.due("nothing told", x.crop(0, 4), NONE);
         Check.due("as many", Check.row(x, 399, 0, 1, 2), 2);
+        refusedRow(x, 400, 0, -1);
+        refusedRow(x, 4, 2, -2);
+        refusedRow(x, 2, 0, -3);
+        refusedRow(x, 399, 0, -4);
+        refusedRow(x, 4, 1, -6);
+    }
+
+    /** Two floats, refused: what is fed behind them stands alone on the TAPE, and can be a ROW at once. */
+    private static void refusedRow(NoRent x, int week, int from, int why) {
+        x.image(0);
+        Check.due("refused by " + why, Check.row(x, week, from, 1, 2), why);
+        Check.due("status", x.status(), why);
+        Check.due("the TAPE is empty behind " + why, x.count(9), 0);
+        Check.due("fed anew", x.feed(Float.floatToRawIntBits(7), 0, 0, 0, 0), 20);
+        x.end(4);
+        Check.due("a ROW of it", x.row(5, 0), 1);
+        Check.due("what was fed last", x.crop(0, 5), 7);
+        x.back(0);
     }
 
     private static void crop() {
@@ -234,6 +252,7 @@ public final class SeasonsAndTextsTest {
         Check.due("not read", x.fault(), 5);
         x.beside(0);
         Check.due("not read", x.fault(), 5);
+        Check.tape(x, "x");
         x.beside(1);
         Check.due("read by beside()", x.fault(), 0);
         Check.tape(x, "keep");

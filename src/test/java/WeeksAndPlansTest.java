@@ -564,8 +564,11 @@ public final class WeeksAndPlansTest {
         Check.due("alike", x.beside(14), 0);
         Check.tape(x, "keep");
         Check.due("bad", x.beside(0), NOTHING);
+        Check.due("the TAPE is empty behind bad WEEKS", x.count(9), 0);
+        Check.tape(x, "keep");
         Check.due("bad", x.beside(105), NOTHING);
-        Check.due("not read", x.count(9), 4);
+        Check.due("the TAPE is empty behind bad WEEKS", x.count(9), 0);
+        Check.due("not read", x.fault(), NONE);
         Check.tape(x, "keep keep");
         Check.due("a TEXT that can't be", x.beside(1), NOTHING);
         Check.due("fault", x.fault(), 5);
@@ -578,12 +581,15 @@ public final class WeeksAndPlansTest {
         Check.tape(x, "keep keep");
         Check.due("no room", x.beside(1), NOTHING);
         Check.due("not read", x.fault(), NONE);
+        Check.due("the TAPE is empty without room", x.count(9), 0);
         NoRent y = new NoRent();
         y.go(104);
         y.go(104);
         y.go(104);
         Check.tape(y, "keep");
         Check.due("beyond 399", y.beside(88), NOTHING);
+        Check.due("the TAPE is empty", y.count(9), 0);
+        Check.tape(y, "keep");
         Check.due("up to 399", y.beside(87), 0);
         // no WRITS by themselves, but those told go on
         NoRent z = PeopleAndLandTest.poor(1);
