@@ -28,17 +28,6 @@ public final class PeopleAndLandTest {
         Check.close();
     }
 
-    /** A county with one ESTATE, n PERSONS of HOUSES 0, 1, .. without COIN, fear 10, a FIELD of RENT 100 each. */
-    static NoRent poor(int n) {
-        NoRent x = new NoRent();
-        x.estate(0, 0);
-        for (int i = 0; i < n; i++) {
-            x.person(i, 0, 10);
-            x.field(0, 100, 100, i);
-        }
-        return x;
-    }
-
     private static void newObject() {
         Check.part("promise 1");
         NoRent x = new NoRent();
@@ -116,7 +105,7 @@ public final class PeopleAndLandTest {
 
     private static void goes() {
         Check.part("promise 4");
-        NoRent x = poor(1);
+        NoRent x = Scenes.tenants(1, 0);
         for (int state = 3; state >= 0; state--) {
             Check.due("goes", x.goes(0, state), 0);
             Check.due("state", x.of(0, 0), state);
@@ -135,7 +124,7 @@ public final class PeopleAndLandTest {
 
     private static void coin() {
         Check.part("promise 5");
-        NoRent x = poor(1);
+        NoRent x = Scenes.tenants(1, 0);
         Check.due("none", x.coin(0, 0), 0);
         for (int i = 1; i <= 9; i++) {
             Check.due("a million more", x.coin(0, 1_000_000), i * 1_000_000);
@@ -311,7 +300,7 @@ public final class PeopleAndLandTest {
 
     private static void writ() {
         Check.part("promise 22");
-        NoRent x = poor(2);
+        NoRent x = Scenes.tenants(2, 0);
         x.field(0, 1, 5, NONE);
         Check.due("no such", x.writ(3), -2);
         Check.due("no such", x.writ(-1), -2);
@@ -337,7 +326,7 @@ public final class PeopleAndLandTest {
 
     private static void avoid() {
         Check.part("promise 23");
-        NoRent x = poor(1);
+        NoRent x = Scenes.tenants(1, 0);
         x.go(14);
         Check.due("none", x.avoid(0), -3);
         x.writ(0);
@@ -360,7 +349,7 @@ public final class PeopleAndLandTest {
 
     private static void guard() {
         Check.part("promise 24");
-        NoRent y = poor(2);
+        NoRent y = Scenes.tenants(2, 0);
         y.go(14);
         y.writ(0);
         y.writ(1);
@@ -384,7 +373,7 @@ public final class PeopleAndLandTest {
 
     private static void take() {
         Check.part("promise 25");
-        NoRent x = poor(2);
+        NoRent x = Scenes.tenants(2, 0);
         x.person(5, 0, 80);
         x.field(0, 10, 7, NONE);
         Check.text(x, 0, "step 0 1;step 1 1;step 2 1;step 3 1;grab if fear > 50 and worth = 100");
@@ -434,7 +423,7 @@ public final class PeopleAndLandTest {
 
     private static void putOutOfOneOfTwo() {
         Check.part("terms III (3)");
-        NoRent x = poor(1);
+        NoRent x = Scenes.tenants(1, 0);
         x.field(0, 1, 3, 0);
         x.go(14);
         x.writ(0);
@@ -457,7 +446,7 @@ public final class PeopleAndLandTest {
 
     private static void putOutWhileHeld() {
         Check.part("terms III (2), (3)");
-        NoRent x = poor(1);
+        NoRent x = Scenes.tenants(1, 0);
         x.go(14);
         x.goes(0, 2);
         x.writ(0);

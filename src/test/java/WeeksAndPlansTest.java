@@ -94,7 +94,7 @@ public final class WeeksAndPlansTest {
 
     private static void draws() {
         Check.part("terms III (4)");
-        NoRent x = PeopleAndLandTest.poor(3);
+        NoRent x = Scenes.tenants(3, 0);
         Check.text(x, 0, "step 0 1;step 1 1;step 2 1;step 3 1;draw 5;draw 2 - 3 if house = 1;draw 0 - 99 if house = 2;draw 1/0");
         x.go(14);
         x.writ(0);
@@ -120,7 +120,7 @@ public final class WeeksAndPlansTest {
         x.goes(1, 1);
         x.go(1);
         Check.due("on the ROAD", x.fund(), 96);
-        NoRent y = PeopleAndLandTest.poor(1);
+        NoRent y = Scenes.tenants(1, 0);
         Check.text(y, 0, "step 0 1;step 1 1;step 2 1;step 3 1;draw 100000*100");
         y.go(14);
         y.writ(0);
@@ -154,7 +154,7 @@ public final class WeeksAndPlansTest {
         x.go(1);
         Check.due("again", x.of(2, 3), 1);
         // by how things are behind (4)
-        NoRent y = PeopleAndLandTest.poor(1);
+        NoRent y = Scenes.tenants(1, 0);
         Check.text(y, 0, "step 0 1;step 1 1;step 2 1;step 3 1;draw 5;ban if coin = 5 and out and not holds");
         y.go(14);
         y.writ(0);
@@ -167,7 +167,7 @@ public final class WeeksAndPlansTest {
 
     private static void steps() {
         Check.part("terms III (3), STEPS");
-        NoRent x = PeopleAndLandTest.poor(1);
+        NoRent x = Scenes.tenants(1, 0);
         Check.text(x, 0, "step 1 2;step 1 3;step 0 2");
         Check.text(x, 16, "step 0 9;step 2 7;step 3 1");
         Check.text(x, 19, "strike 1 clause 1");
@@ -302,7 +302,7 @@ public final class WeeksAndPlansTest {
 
     private static void wishClearCrops() {
         Check.part("promises 35, 36, 37");
-        NoRent x = PeopleAndLandTest.poor(7);
+        NoRent x = Scenes.tenants(7, 0);
         x.field(0, 1, 1, NONE);
         Check.due("no such", x.wish(8), -2);
         Check.due("no such", x.wish(-1), -2);
@@ -486,7 +486,7 @@ public final class WeeksAndPlansTest {
 
     private static void paperAlone() {
         Check.part("promises 38, 40: on paper");
-        NoRent x = PeopleAndLandTest.poor(2);
+        NoRent x = Scenes.tenants(2, 0);
         x.price(0, 50);
         Check.row(x, 13, 0, 100, 100);
         Check.text(x, 0, "keep;fair 0;ban if price = 3;draw 1");
@@ -520,14 +520,14 @@ public final class WeeksAndPlansTest {
         Check.due("no choice", x.chosen(0), NONE);
         Check.due("no bits", x.judge(1, 50), NONE);
         // "price" on paper is that of the CROPS told
-        NoRent y = PeopleAndLandTest.poor(1);
+        NoRent y = Scenes.tenants(1, 0);
         Check.text(y, 0, "keep if price = 3;fair 100 if price = 3");
         y.coin(0, 100);
         y.crops(3, 0);
         Check.due("pays what is FAIR once", y.judge(0, 30), 0);
         Check.due("not twice", y.judge(0, 43), 1);
         // SACKS in the first WEEK of a QUARTER, also WEEK 0
-        NoRent z = PeopleAndLandTest.poor(1);
+        NoRent z = Scenes.tenants(1, 0);
         z.field(0, 50, 0, 0);
         z.wish(0);
         z.crops(1, 67);
@@ -592,7 +592,7 @@ public final class WeeksAndPlansTest {
         Check.tape(y, "keep");
         Check.due("up to 399", y.beside(87), 0);
         // no WRITS by themselves, but those told go on
-        NoRent z = PeopleAndLandTest.poor(1);
+        NoRent z = Scenes.tenants(1, 0);
         z.go(14);
         z.coin(0, 300);
         z.writ(0);
@@ -644,7 +644,7 @@ public final class WeeksAndPlansTest {
 
     private static void imageAndBack() {
         Check.part("promises 45, 46");
-        NoRent x = PeopleAndLandTest.poor(2);
+        NoRent x = Scenes.tenants(2, 0);
         Check.due("bad", x.image(2), -1);
         Check.due("bad", x.image(-1), -1);
         Check.due("bad", x.back(2), -1);
@@ -750,7 +750,7 @@ public final class WeeksAndPlansTest {
         x.go(13);
         Check.due("rent and mortgage", x.owner(0, 0), 100 + 3 - 10);
         // GRABBED stays so, in an IMAGE and on paper
-        NoRent y = PeopleAndLandTest.poor(2);
+        NoRent y = Scenes.tenants(2, 0);
         Check.text(y, 0, "grab;step 0 1;step 1 1;step 2 1;step 3 1;keep if grabs;fair 1");
         y.go(14);
         y.writ(0);
@@ -772,7 +772,7 @@ public final class WeeksAndPlansTest {
 
     private static void planOutlivesBack() {
         Check.part("terms IV, IMAGES");
-        NoRent x = PeopleAndLandTest.poor(1);
+        NoRent x = Scenes.tenants(1, 0);
         x.image(0);
         x.person(9, 0, 0);
         x.field(0, 1, 1, 1);
@@ -796,7 +796,7 @@ public final class WeeksAndPlansTest {
 
     private static void count() {
         Check.part("promise 47");
-        NoRent x = PeopleAndLandTest.poor(3);
+        NoRent x = Scenes.tenants(3, 0);
         x.estate(0, 0);
         Check.text(x, 0, "keep");
         x.coin(0, 10);
@@ -817,7 +817,7 @@ public final class WeeksAndPlansTest {
 
     private static void status() {
         Check.part("promise 48");
-        NoRent x = PeopleAndLandTest.poor(1);
+        NoRent x = Scenes.tenants(1, 0);
         x.go(1);
         int[] answers = {x.person(20, 0, 0), x.status(), x.heed(0, 0), x.status(), x.goes(5, 0), x.status(),
             x.coin(0, -1), x.status(), x.give(-1), x.status(), x.estate(-1, 0), x.status(), x.field(3, 1, 1, 0), x.status(),
