@@ -26,6 +26,7 @@ public final class PromiseEdgesTest {
         theTapeBehindBeside();
         faultOfTheLatestThatRead();
         forceAndHolds();
+        fortyGuards();
         brave();
         broke();
         brokeByWhatIsNow();
@@ -633,6 +634,22 @@ public final class PromiseEdgesTest {
         Check.text(z, 100, "strike 0 clause 0");
         z.force(0, 0, 399);
         Check.due("LEAST NOW", z.least(0, 1), 1);
+    }
+
+    private static void fortyGuards() {
+        Check.part("24: a FIELD is GUARDED from a WEEK to a WEEK, 40 at most: how many times told");
+        NoRent x = Scenes.tenants(2, 0);
+        for (int i = 1; i <= 40; i++) {
+            Check.due("guard", x.guard(i == 40 ? 1 : 0, i == 40 ? 15 : i % 14, i == 40 ? 16 : 13), i);
+        }
+        Check.due("full", x.guard(0, 0, 399), -5);
+        Check.due("full, of the other as well", x.guard(1, 0, 399), -5);
+        x.go(14);
+        x.writ(0);
+        x.writ(1);
+        x.go(4);
+        Check.due("none of those that were refused counts", x.tells(0, 6), 1);
+        Check.due("the fortieth counts", x.tells(1, 6), 3);
     }
 
     private static void brave() {
