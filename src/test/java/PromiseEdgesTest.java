@@ -37,6 +37,8 @@ public final class PromiseEdgesTest {
         clear();
         statusOfTheLatest();
         statusIsOfTheseAlone();
+        everythingFull();
+        fullOnPaper();
         Check.close();
     }
 
@@ -929,5 +931,73 @@ public final class PromiseEdgesTest {
         x.choose(0);
         x.beside(0);
         Check.due("of coin still", x.status(), 0);
+    }
+
+    /** 40 PERSONS, 8 ESTATES, 40 FIELDS, 20 TEXTS of 12 CLAUSES, 40 GUARDS, 60 WRITS, 9 OFFERS, 6 WISHES, 3 CROPS. */
+    private static void everythingFull() {
+        Check.part("I to IV: everything is full, and all of it is asked");
+        NoRent x = Scenes.tenants(40, 0);
+        for (int i = 1; i < 8; i++) {
+            x.estate(0, 0);
+        }
+        for (int i = 0; i < 40; i++) {
+            x.guard(39, 15, 15);
+        }
+        for (int i = 0; i < 20; i++) {
+            String text = "fair 9;ban if banned;draw 1;grab;keep if kin>9;ban if grabs;fair 8;step 3 4;draw 1;grab;keep if kin>9;fair week";
+            Check.due("text", Check.text(x, 0, text), i);
+        }
+        x.go(14);
+        for (int f = 0; f < 40; f++) {
+            Check.due("writ", x.writ(f), f + 1);
+        }
+        for (int i = 41; i <= 60; i++) {
+            x.avoid(0);
+            Check.due("writ", x.writ(0), i);
+        }
+        for (int i = 0; i < 9; i++) {
+            x.offer(100, 100);
+        }
+        for (int i = 0; i < 6; i++) {
+            x.wish(39 - i);
+            x.crops(0, 0);
+        }
+        x.give(10_000_000);
+        Check.due("FAIR of the last", x.tells(39, 3), 14);
+        Check.due("the last CLAUSE of the last TEXT", x.holds(19, 11, 39, 39), 1);
+        Check.due("LEAST of the first ESTATE", x.least(0, 9), NONE);
+        Check.due("BEST of the OFFERS", x.agree(900, 900), 511);
+        Check.due("one of kin is not above 9", x.tells(39, 4), 0);
+        Check.due("CHOICES up to WEEK 30", x.choose(17), 39);
+        Check.due("CHOICES up to WEEK 31", x.judge(63, 18), 40);
+        x.image(1);
+        x.go(17);
+        Check.due("out", x.of(38, 4), 30);
+        Check.due("not the one that was GUARDED", x.of(39, 4), NONE);
+        Check.due("40 CLAUSES draw", x.of(38, 1), 40);
+        Check.due("for 39", x.fund(), 10_000_000 - 39 * 40);
+        x.go(1);
+        Check.due("nor that one any more", x.of(39, 4), 31);
+        x.goes(39, 0);
+        Check.due("GRAB", x.take(39, 38, 0), 0);
+        x.go(1);
+        Check.due("BANNED, as it grabs", x.of(39, 3), 1);
+        Check.due("who may have sold", x.broke(39, 1, 1, 0), 39);
+        Check.due("the last of them", x.broke(39, 1, 2, 38), 38);
+        Check.due("back", x.back(1), 0);
+        Check.due("nobody is out", x.of(38, 4), NONE);
+    }
+
+    private static void fullOnPaper() {
+        Check.part("41: with 19 TEXTS the one TRIED is the twentieth");
+        NoRent x = Scenes.tenants(1, 1000);
+        for (int i = 0; i < 19; i++) {
+            Check.text(x, 0, "fair 50;keep;step 0 3;draw 1;ban;grab");
+        }
+        Check.tape(x, "fair 20");
+        Check.due("told last", x.beside(14), -30);
+        Check.tape(x, "strike 18 clause 0;strike 17 clause 0;fair 100;ban if banned");
+        Check.due("told last", x.beside(14), 50);
+        Check.due("still 19", x.count(4), 19);
     }
 }

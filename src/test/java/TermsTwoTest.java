@@ -8,6 +8,7 @@ public final class TermsTwoTest {
         twentyTexts();
         fourHundredBytes();
         tokens();
+        theTapeEnds();
         twelveClauses();
         headsAndIf();
         eachProduction();
@@ -72,6 +73,11 @@ public final class TermsTwoTest {
         faults("keep" + ";".repeat(396), 5);
         faults("keep" + " ".repeat(396), NONE);
         faults("keep" + " ".repeat(395) + "x", 399);
+        faults("keep" + " ".repeat(395) + "i", 399);
+        faults("keep" + " ".repeat(394) + "if", 400);
+        faults("fair" + " ".repeat(393) + "kin", NONE);
+        faults("fair" + " ".repeat(394) + "ki", 398);
+        faults("fair" + " ".repeat(395) + "1", NONE);
     }
 
     private static void tokens() {
@@ -110,6 +116,45 @@ public final class TermsTwoTest {
         faults("fair z", 5);
         faults("keepa", 0);
         faults("keepz", 0);
+        // a part of a word is none
+        String[] parts = {"eep", "p", "k", "kee", "an", "ba", "rab", "gra", "air", "trike", "strik", "tep", "raw"};
+        for (String part : parts) {
+            faults(part + " 1", 0);
+        }
+        String[] words = {"in", "ki", "orth", "oin", "acks", "ear", "ouse", "rrear", "state", "eek", "rice", "e", "s", "ent"};
+        for (String word : words) {
+            faults("fair " + word, 5);
+        }
+        String[] tests = {"olds", "hold", "ut", "ou", "anned", "rabs", "ot out", "no out"};
+        for (String test : tests) {
+            faults("keep if " + test, 8);
+        }
+        faults("keep f out", 5);
+        faults("keep i out", 5);
+        faults("keep if out r out", 12);
+        faults("keep if out o out", 12);
+        faults("keep if out nd out", 12);
+        faults("keep if out an out", 12);
+        faults("strike 0 lause 0", 9);
+        faults("strike 0 claus 0", 9);
+    }
+
+    /** What the TAPE had behind its end is no part of its last TOKEN. */
+    private static void theTapeEnds() {
+        Check.part("II: TOKENS of the TAPE alone");
+        NoRent x = Scenes.tenants(1, 0);
+        Check.tape(x, "keep;fair 12");
+        x.end(3);
+        Check.due("kee", x.text(0), -6);
+        Check.due("kee", x.fault(), 0);
+        Check.tape(x, "keep;fair 12");
+        x.end(11);
+        Check.due("fair 1", x.text(0), 0);
+        Check.due("fair 1", x.tells(0, 3), 1);
+        Check.tape(x, "keep;fair 12");
+        x.end(9);
+        Check.due("fair", x.text(0), -6);
+        Check.due("fair", x.fault(), 9);
     }
 
     private static void twelveClauses() {
